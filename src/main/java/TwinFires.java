@@ -14,7 +14,7 @@ public final class TwinFires {
     private static final int BAD_PART = -1000000;
     private static final int FAULT = -10, REFUSED_ITEM = -1000;
     private static final int[] LEAST = {0, 0, 0, 1};
-    private static final int[] GREATEST = {99, 99, 3, TRUTHS};
+    private static final int[] GREATEST = {99, 99, 3, 10};
 
     private Land here;
     private Land draft;
@@ -388,7 +388,7 @@ public final class TwinFires {
         eyes.gather(here, here.dial[YEAR]);
         int lit = set;
         int first = NONE;
-        int kept = 0;
+        int good = 0;
         for (int hour = 0; hour < HOURS; hour++) {
             int change = here.nightChange(hour);
             boolean isLit = (lit & change) != 0;
@@ -397,7 +397,7 @@ public final class TwinFires {
             }
             lit ^= change;
             if (isLawfulIn(hour, lit)) {
-                kept++;
+                good++;
             } else if (first == NONE) {
                 first = hour;
             }
@@ -405,7 +405,7 @@ public final class TwinFires {
         if (what == 0) {
             return first;
         }
-        return what == 1 ? kept : lit;
+        return what == 1 ? good : lit;
     }
 
     // ---- what there is
