@@ -484,9 +484,10 @@ public final class TwinFires {
 
     /** Passes an answer on; one that is a refusal comes to STATUS. */
     private int counted(int answer) {
-        return answer <= BAD && answer >= FULL ? countedAs(answer, answer) : answer;
+        return countedAs(answer, answer);
     }
 
+    /** Some calls answer a refusal by another number than its reason. */
     private int countedAs(int reason, int answer) {
         int place = BAD - reason;
         if (isWithin(place, 0, refused.length - 1)) {
@@ -1240,7 +1241,7 @@ public final class TwinFires {
             for (int set = 0; set < all; set++) {
                 marks[set] &= set == to ? ~0 : ~(1 << last);
             }
-            for (int hour = last - 1; hour >= 0; hour--) {
+            for (int hour = last - 1; hour > 0; hour--) {
                 for (int set = 0; set < all; set++) {
                     if (isIn(hour, marks[set]) && !isNearMarked(set, hour + 1, land.hills)) {
                         marks[set] &= ~(1 << hour);

@@ -225,8 +225,9 @@ public final class ModelTest {
             }
             for (int i = r.nextInt(3) == 0 ? 1 + r.nextInt(2) : 0; i > 0 && b.length() > 0; i--) {
                 int at = r.nextInt(b.length());
-                switch (r.nextInt(3)) {
+                switch (r.nextInt(4)) {
                     case 0: b.deleteCharAt(at); break;
+                    case 2: b.setCharAt(at, (char) ('a' + r.nextInt(26))); break;
                     case 1: b.insert(at, " 0;ahpA-\u00e9\u0000\t9".charAt(r.nextInt(12))); break;
                     default: b.setLength(at); break;
                 }

@@ -400,8 +400,10 @@ public final class PromisesTest {
     private static void landFaults() {
         String[] texts = {"hill 1 2 3", "hil 1 2 3;", "hill 1 2 345;", "hill 1 2;", "hill 1 2 3 4;", "1;", ";", "year 1;;",
             "year 1; mist", "year 1 ; Mist 2;", "hill 1 2 hill;", "year 100;", "yearyear 1;", "year 1 mist 2;",
-            "  x", "hill 50 1 1; year", "year -1;", "year 1;\t", "year 1; 007", "wood 1 2 3;", "stone 1 2 3 4;", "hill"};
-        int[] places = {10, 0, 9, 8, 11, 0, 0, 7, 12, 9, 9, 5, 0, 7, 2, 17, 5, 7, 8, 10, 12, 4};
+            "  x", "hill 50 1 1; year", "year -1;", "year 1;\t", "year 1; 007", "wood 1 2 3;", "stone 1 2 3 4;", "hill",
+            "bill 1 2 3;", "hilt 1 2 3;", "hills 1 2 3;", "wide 1; hull 1 2 3;"};
+        int[] places = {10, 0, 9, 8, 11, 0, 0, 7, 12, 9, 9, 5, 0, 7, 2, 17, 5, 7, 8, 10, 12, 4,
+            0, 0, 0, 8};
         for (int i = 0; i < texts.length; i++) {
             due(12, "fault of '" + texts[i] + "'", landOf(texts[i]), -10 - places[i]);
         }
