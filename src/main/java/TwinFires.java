@@ -501,8 +501,10 @@ public final class TwinFires {
         eyes.veil(here, here.dial[MIST], 0);
     }
 
+    /** Not by lookNow, as calls go only so deep. */
     private void gatherNow() {
-        lookNow();
+        eyes.gather(here, here.dial[YEAR]);
+        eyes.veil(here, here.dial[MIST], 0);
         rows.gather(eyes, here.hills);
     }
 
@@ -1007,7 +1009,7 @@ public final class TwinFires {
                 if (!line.meets(stone.x, stone.y)) {
                     continue;
                 }
-                if (line.isHidden(stone.x, stone.y, land.standing(thing, year))) {
+                if (line.isHidden(stone.x, stone.y, stone.stands(year, land.done[thing] == 1))) {
                     hidesNow[pair] |= 1 << thing;
                 }
                 if (line.isHidden(stone.x, stone.y, stone.stands(year, true))) {
