@@ -18,6 +18,7 @@ final class LandSentences {
         termsOfToppedAndWall();
         termsOfDials();
         termsOfMist();
+        termsOfHidingForEachCall();
         termsOfAlong();
         termsOfWide();
         termsOfWideTheOtherWay();
@@ -261,6 +262,68 @@ final class LandSentences {
         t.asks("seven hills that do not hide", hills, y -> y.sight(0, 1), 1);
         hills.hill(9, 0, 11);
         t.asks("the last hill hides", hills, y -> y.sight(0, 1), 0);
+        TwinFires first = new TwinFires();
+        first.hill(2, 0, 11);
+        first.hill(0, 0, 10);
+        first.hill(4, 0, 10);
+        t.asks("the first hill hides", first, y -> y.sight(1, 2), 0);
+    }
+
+    /** Two hills with one thing between, that hides them or does not, looked at by each call on a new object. */
+    private void looks(int kind, boolean isDone, boolean isSeen) {
+        int one = isSeen ? 1 : 0;
+        Sentences.Call[] calls = {y -> y.sight(0, 1), y -> y.sees(1, 3), y -> y.judge(3, 0), y -> y.most(0, 0),
+            y -> y.lawful(2), y -> y.years(3), y -> y.hours(3), y -> y.fewest(3, 0), y -> y.cheapest(3, 0), y -> y.tower(0),
+            y -> y.row(0, 3, -1), y -> y.reach(0, 1), y -> y.words(0, 0, 1), y -> y.byMists(0, 3, -1), y -> y.toldIn(0, 0),
+            y -> y.without(3), y -> y.chance(3, 0), y -> y.lies(3, 0), y -> y.night(3, 1)};
+        int[] seen = {1, 1, -1, 2, 1, 1023, 4095, 0, 0, 0, 1, 2, 2, 1, 1, 0, -3, -2, 12};
+        int felled = kind == WALL ? -1 : 1;
+        int[] hidden = {0, 0, 0, -3, 0, 0, 0, felled, felled, 90, -20, 1, 1, -6, -1, -3, -3, -2, 0};
+        for (int i = 0; i < calls.length; i++) {
+            TwinFires x = Lands.two();
+            x.thing(kind, 2, 0, kind == TOPPED ? 99 : 50, 0);
+            x.work(0, isDone);
+            x.letter(2);
+            t.due("call " + i + ", kind " + kind + ", " + isDone, calls[i].on(x), isSeen ? seen[i] : i == 9 && kind == TOPPED
+                    ? 88 : hidden[i]);
+        }
+        TwinFires x = Lands.two();
+        x.thing(kind, 2, 0, 50, 0);
+        x.work(0, isDone);
+        x.report(0, 1);
+        t.asks("who was seen, kind " + kind, x, y -> y.without(0), 2 * one);
+        TwinFires liar = Lands.two();
+        liar.thing(kind, 2, 0, 50, 0);
+        liar.work(0, isDone);
+        liar.report(0, 1);
+        liar.lies(0, 1);
+        // Seen: 1 for hill 0 and 9 for hill 1; not seen: 1 each.
+        t.due("lies, kind " + kind, liar.part(1), isSeen ? 10 : 2);
+    }
+
+    private void termsOfHidingForEachCall() {
+        t.says(TERMS, "and nothing hides them.");
+        for (int kind = WOOD; kind <= TOPPED; kind++) {
+            looks(kind, false, false);
+            looks(kind, true, true);
+        }
+        looks(WALL, false, true);
+        looks(WALL, true, false);
+        // Two pairs that hills hide from each other, each call the first of its object.
+        t.due("judge", Lands.chain(5).judge(27, 0), -1);
+        t.due("years", Lands.chain(5).years(27), 1023);
+        t.due("hours", Lands.chain(5).hours(27), 4095);
+        t.due("fewest", Lands.chain(5).fewest(27, 0), 0);
+        t.due("cheapest", Lands.chain(5).cheapest(27, 0), 0);
+        t.due("row", Lands.chain(5).row(27, 27, -1), 0);
+        t.due("reach", Lands.chain(5).reach(27, 0), 1);
+        t.due("words", Lands.chain(5).words(27, 0, 0), 1);
+        t.due("byMists", Lands.chain(5).byMists(27, 27, -1), 0);
+        t.due("toldIn", Lands.chain(5).toldIn(27, 0), 0);
+        t.due("without", Lands.chain(5).without(27), 4);
+        t.due("chance", Lands.chain(5).chance(27, 2), 1);
+        t.due("lies", Lands.chain(5).lies(27, 2), 1);
+        t.due("night", Lands.chain(5).night(27, 1), 12);
     }
 
     /** Whether a thing of 99 hides two hills of 10, told first one way, then the other; alike for a hill. */
@@ -401,6 +464,15 @@ final class LandSentences {
         t.asks("2 by 722", x, y -> y.sight(0, 1), 1);
         x.thing(STONE, 1, 0, 3, 0);
         t.asks("3 by 722", x, y -> y.sight(0, 1), 0);
+        // dx 2, dy 1, D 5; at 1, 2 ALONG is 4: 55 is more than 50 and 4, 50 is not.
+        TwinFires one = new TwinFires();
+        one.hill(5, 5, 10);
+        one.hill(7, 6, 11);
+        one.put(WIDE, 2);
+        one.thing(STONE, 6, 7, 10, 0);
+        t.asks("50 by 54", one, y -> y.sight(0, 1), 1);
+        one.thing(STONE, 6, 7, 11, 0);
+        t.asks("55 by 54", one, y -> y.sight(0, 1), 0);
     }
 
     private void termsOfBothEnds() {

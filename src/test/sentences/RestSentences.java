@@ -13,6 +13,7 @@ final class RestSentences {
     void all() {
         termsOfImages();
         termsOfGoingOn();
+        usedAndNew();
         termsOfStatus();
         termsOfFraction();
         termsOfRefusing();
@@ -145,6 +146,57 @@ final class RestSentences {
         empty.hill(1, 1, 1);
         empty.from(1);
         t.due("of nothing", empty.digest(), none);
+    }
+
+    private static TwinFires pairs(int mist, int... letters) {
+        TwinFires x = Lands.chain(5);
+        x.put(MIST, mist);
+        for (int hour = 0; hour < 12; hour++) {
+            x.mist(hour, mist);
+        }
+        for (int letter : letters) {
+            x.letter(letter);
+        }
+        return x;
+    }
+
+    /** What was asked before leaves nothing behind: an object that goes on answers as a new one does. */
+    private void usedAndNew() {
+        t.says(TERMS, "IMAGES 0, 1 keep all but them, THE TEXT, THE FRACTION and STATUS; it goes on from one.");
+        Sentences.Call[] calls = {y -> y.most(NONE, 1), y -> y.most(4, 0), y -> y.lawful(NONE), y -> y.lawful(2),
+            y -> y.reach(0, 1), y -> y.reach(0, 99), y -> y.words(0, 0, 6), y -> y.words(0, 3, 1), y -> y.toldIn(0, 0),
+            y -> y.toldIn(0, 3), y -> y.row(0, 24, NONE), y -> y.row(24, 3, 1), y -> y.byMists(0, 24, NONE),
+            y -> y.byMists(24, 3, 1), y -> y.without(0), y -> y.years(24), y -> y.hours(24), y -> y.night(24, 1),
+            y -> y.fewest(24, 0), y -> y.cheapest(6, 1), y -> y.tower(4), y -> y.judge(27, 0)};
+        int[] mists = {0, 99, 0, 25, 11, 29, 19, 0};
+        TwinFires image = Lands.chain(5);
+        for (int i = 0; i < 2; i++) {
+            image.letter(2);
+        }
+        image.image(0);
+        for (int mist : mists) {
+            TwinFires used = pairs(0, 2, 2);
+            for (int k = 0; k < calls.length; k++) {
+                calls[k].on(used);
+            }
+            used.put(MIST, mist);
+            for (int hour = 0; hour < 12; hour++) {
+                used.mist(hour, mist);
+            }
+            for (int k = 0; k < calls.length; k++) {
+                t.due("call " + k + " in mist " + mist, calls[k].on(used), calls[k].on(pairs(mist, 2, 2)));
+            }
+        }
+        image.hill(15, 0, 99);
+        image.hill(7, 0, 99);
+        image.thing(STONE, 1, 0, 99, 0);
+        for (int k = 0; k < calls.length; k++) {
+            calls[k].on(image);
+        }
+        image.from(0);
+        for (int k = 0; k < calls.length; k++) {
+            t.due("call " + k + " from an image", calls[k].on(image), calls[k].on(pairs(0, 2, 2)));
+        }
     }
 
     private void termsOfStatus() {

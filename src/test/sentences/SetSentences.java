@@ -260,6 +260,13 @@ final class SetSentences {
         t.asks("just the pine", fell, y -> y.fewest(6, 1), 2);
         t.asks("one", fell, y -> y.fewest(6, 0), 1);
         t.asks("nothing: the pine stands there", fell, y -> y.fewest(15, 1), 0);
+        // The wall of the first land is not in the second one's way.
+        TwinFires anew = line();
+        anew.thing(WALL, 2, 0, 50, 0);
+        t.asks("a wall", anew, y -> y.fewest(15, 1), 1);
+        Lands.write(anew, "hill 0 0 9;hill 1 0 9;hill 3 0 9;hill 4 0 9;wall 2 5 9;");
+        anew.land();
+        t.asks("a wall elsewhere", anew, y -> y.fewest(15, 1), NONE);
     }
 
     private void termsOfCheapest() {
@@ -338,6 +345,12 @@ final class SetSentences {
         t.asks("in the mist", many, y -> y.tower(0), 17);
         many.put(MIST, 19);
         t.asks("another one is in the mist", many, y -> y.tower(0), NONE);
+        TwinFires first = new TwinFires();
+        first.hill(2, 0, 50);
+        first.hill(0, 0, 10);
+        first.hill(4, 0, 10);
+        t.asks("over the first hill", first, y -> y.tower(1), 90);
+        t.asks("between the others", first, y -> y.tower(0), 0);
     }
 
     private void termsOfTowerHeights() {
@@ -351,6 +364,11 @@ final class SetSentences {
         t.due("its own is as it was", x.sight(0, 1), 1);
         x.put(MIST, 99);
         t.asks("99 in mist", x, y -> y.tower(0), 99);
+        TwinFires two = Lands.two();
+        two.put(MIST, 10);
+        t.asks("as high as the mist", two, y -> y.tower(0), 10);
+        two.put(MIST, 9);
+        t.asks("as high as the mist", two, y -> y.tower(1), 9);
         TwinFires low = new TwinFires();
         low.hill(0, 0, 0);
         low.hill(4, 0, 0);

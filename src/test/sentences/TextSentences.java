@@ -166,6 +166,9 @@ final class TextSentences {
             fault("year 1; " + word.substring(1) + " 1;", 8);
             fault("year 1; " + word.substring(0, word.length() - 1) + " 1;", 8);
             fault("year 1; " + word, 8 + word.length());
+            for (int i = 0; i < word.length(); i++) {
+                fault("year 1; " + word.substring(0, i) + "q" + word.substring(i + 1) + " 1;", 8);
+            }
         }
     }
 
@@ -330,6 +333,17 @@ final class TextSentences {
         t.due("no things", empty.count(1), 0);
         t.due("year", empty.put(YEAR, 0), 0);
         t.due("a hill where one was", empty.hill(0, 0, 0), 0);
+        TwinFires seen = new TwinFires();
+        seen.hill(0, 0, 9);
+        seen.hill(18, 0, 9);
+        seen.hill(9, 0, 99);
+        seen.thing(STONE, 5, 0, 99, 0);
+        t.asks("what was between", seen, y -> y.sight(0, 1), 0);
+        Lands.write(seen, "hill 0 0 9; hill 18 0 9;");
+        seen.land();
+        t.asks("is no more", seen, y -> y.sight(0, 1), 1);
+        t.asks("is no more", seen, y -> y.tower(0), 0);
+        t.asks("is no more", seen, y -> y.tower(1), 0);
     }
 
     private void allElseStays() {
@@ -383,6 +397,7 @@ final class TextSentences {
         same.hill(0, 0, 0);
         Lands.write(same, " ".repeat(x.count(2)));
         t.due("the last year holds", x.digest(), same.digest());
+        reads("wood 1 2 3 4; stone 1 2 3; pine 1 2 3 9; wall 1 2 3; hill 1 2 3; mist 4; hedge 9 9 9 9; wall 1 1 1;", 8);
     }
 
     private void refusedItems() {
@@ -467,6 +482,11 @@ final class TextSentences {
         Lands.write(x, "hill 1 1 1; wide 3;");
         t.takes("read", x, y -> y.land(), 2);
         t.due("one hill", x.count(0), 1);
+        Lands.write(x, "hill 1 1 1; hill 2 2 2; wide 4;");
+        t.asks("refused behind one that was read", x, y -> y.land(), -1002);
+        Lands.write(x, "hill 1 1 1; hill 2 2 2; wide 4");
+        t.asks("a fault behind one that was read", x, y -> y.land(), -40);
+        t.due("one hill still", x.count(0), 1);
         t.due("it is wide", x.put(WIDE, 0), 3);
     }
 }
