@@ -112,13 +112,28 @@ public final class TwinFires {
     public int land() {
         draft.copyFrom(here);
         draft.forget();
-        int answer = text.readTo(draft);
-        if (answer >= 0) {
-            Land old = here;
-            here = draft;
-            draft = old;
+        text.rewind();
+        int items = 0;
+        int refusedItem = NONE;
+        int item = text.nextItem();
+        // Behind a refused ITEM it is read on, as a FAULT anywhere is told ahead of that.
+        while (item >= 0 && items < BYTES) {
+            if (refusedItem == NONE && draft.tellItem(item, text.numbers) < 0) {
+                refusedItem = items;
+            }
+            items++;
+            item = text.nextItem();
         }
-        return answer;
+        if (item != NONE) {
+            return item;
+        }
+        if (refusedItem != NONE) {
+            return REFUSED_ITEM - refusedItem;
+        }
+        Land old = here;
+        here = draft;
+        draft = old;
+        return items;
     }
 
     // ---- sets
@@ -801,22 +816,19 @@ public final class TwinFires {
             if (things >= THINGS) {
                 return FULL;
             }
-            stones[things] = made(kind, atX, atY, h, g);
+            // Here and not by a method of its own, as calls go only so deep: a TOPPED is made by four constructors.
+            switch (kind) {
+                case WOOD: stones[things] = new Wood(kind, atX, atY, h, g); break;
+                case PINE: stones[things] = new Pine(kind, atX, atY, h, g); break;
+                case HEDGE: stones[things] = new Hedge(kind, atX, atY, h, g); break;
+                case TOPPED: stones[things] = new Topped(kind, atX, atY, h, g); break;
+                case WALL: stones[things] = new Wall(kind, atX, atY, h, g); break;
+                default: stones[things] = new Stone(kind, atX, atY, h, g); break;
+            }
             done[things] = 0;
             cost[things] = 1;
             things++;
             return things - 1;
-        }
-
-        private static Stone made(int kind, int atX, int atY, int h, int g) {
-            switch (kind) {
-                case WOOD: return new Wood(kind, atX, atY, h, g);
-                case PINE: return new Pine(kind, atX, atY, h, g);
-                case HEDGE: return new Hedge(kind, atX, atY, h, g);
-                case TOPPED: return new Topped(kind, atX, atY, h, g);
-                case WALL: return new Wall(kind, atX, atY, h, g);
-                default: return new Stone(kind, atX, atY, h, g);
-            }
         }
 
         int setDial(int what, int v) {
@@ -826,6 +838,17 @@ public final class TwinFires {
             int was = dial[what];
             dial[what] = v;
             return was;
+        }
+
+        /** An ITEM of a text, as its call. */
+        int tellItem(int item, int[] numbers) {
+            if (item == Text.HILL_ITEM) {
+                return addHill(numbers[0], numbers[1], numbers[2]);
+            }
+            if (item < Text.FIRST_DIAL) {
+                return addThing(item - Text.FIRST_THING, numbers[0], numbers[1], numbers[2], numbers[3]);
+            }
+            return setDial(item - Text.FIRST_DIAL, numbers[0]);
         }
 
         int standing(int thing, int year) {
@@ -1323,11 +1346,13 @@ public final class TwinFires {
         private static final int END = 0, WORD = 1, NUMBER = 2, STOP = 3, WRONG = 4;
         private static final int BLANK = 32;
         /** ITEMS: hill, then THINGS by KIND, then the dials YEAR, MIST, WIDE. */
-        private static final int HILL_ITEM = 0, FIRST_THING = 1, FIRST_DIAL = 7, ITEMS = 10;
+        static final int HILL_ITEM = 0, FIRST_THING = 1, FIRST_DIAL = 7;
+        private static final int ITEMS = 10, MOST_NUMBERS = 4;
         private static final int[] NUMBERS = {3, 3, 4, 4, 4, 4, 3, 1, 1, 1};
 
         private final int[] bytes = new int[BYTES];
-        private final int[] numbers = new int[4];
+        /** Of the ITEM that was read last; 0 where it has none. */
+        final int[] numbers = new int[MOST_NUMBERS];
         int length;
         private int tokenAt;
         private int tokenEnd;
@@ -1346,56 +1371,31 @@ public final class TwinFires {
             return length;
         }
 
-        /** How many ITEMS; a FAULT anywhere is told ahead of an ITEM that is refused. */
-        int readTo(Land land) {
-            int items = 0;
-            int refusedItem = NONE;
-            int item = NONE;
-            int had = 0;
+        void rewind() {
             tokenEnd = 0;
+        }
+
+        /** The next ITEM; NONE: there is no more; -10 less the FAULT. */
+        int nextItem() {
             int token = nextToken();
-            for (int tokens = 0; tokens < BYTES && token != END; tokens++) {
-                if (item == NONE) {
-                    item = token == WORD ? itemHere() : NONE;
-                    if (item == NONE) {
-                        return FAULT - tokenAt;
-                    }
-                    had = 0;
-                    Arrays.fill(numbers, 0);
-                } else if (had < NUMBERS[item]) {
-                    if (token != NUMBER) {
-                        return FAULT - tokenAt;
-                    }
-                    numbers[had] = numberHere();
-                    had++;
-                } else {
-                    if (token != STOP) {
-                        return FAULT - tokenAt;
-                    }
-                    if (refusedItem == NONE && tellItem(land, item) < 0) {
-                        refusedItem = items;
-                    }
-                    items++;
-                    item = NONE;
+            if (token == END) {
+                return NONE;
+            }
+            int item = token == WORD ? itemHere() : NONE;
+            if (item == NONE) {
+                return FAULT - tokenAt;
+            }
+            Arrays.fill(numbers, 0);
+            for (int i = 0; i < NUMBERS[item]; i++) {
+                if (nextToken() != NUMBER) {
+                    return FAULT - tokenAt;
                 }
-                token = nextToken();
+                numbers[i] = numberHere();
             }
-            if (item != NONE) {
-                return FAULT - length;
-            }
-            return refusedItem == NONE ? items : REFUSED_ITEM - refusedItem;
+            return nextToken() == STOP ? item : FAULT - tokenAt;
         }
 
-        private int tellItem(Land land, int item) {
-            if (item == HILL_ITEM) {
-                return land.addHill(numbers[0], numbers[1], numbers[2]);
-            }
-            if (item < FIRST_DIAL) {
-                return land.addThing(item - FIRST_THING, numbers[0], numbers[1], numbers[2], numbers[3]);
-            }
-            return land.setDial(item - FIRST_DIAL, numbers[0]);
-        }
-
+        /** At the END tokenAt is the TEXT's length: the FAULT of one that ends too early. */
         private int nextToken() {
             tokenAt = tokenEnd;
             while (tokenAt < length && bytes[tokenAt] == BLANK) {

